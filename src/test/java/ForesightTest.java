@@ -6,6 +6,8 @@ final class ForesightTest {
 
     public static void main(String[] args) {
         promise10Plan();
+        promise10AsIfNobodyHadLooked();
+        promise10SixNests();
         promise10Refusals();
         promise11Each();
         promise11Refusals();
@@ -56,6 +58,32 @@ final class ForesightTest {
         plan("10: three days", three, 3, 5, 0);
     }
 
+    private static void promise10AsIfNobodyHadLooked() {
+        NobodyLookedYesterday hens = CHECK.farm("n0000;n9990;t8;");
+        hens.look(0);
+        CHECK.due("10: looked at 0, she lays at 1", hens.tonight(0), 1);
+        plan("10: as if not, she lays at 0", hens, 2, 1, 0);
+        plan("10: so, too, of three days", hens, 3, 2, 0);
+        NobodyLookedYesterday least = CHECK.farm("n0020;n9920;n0920;n9020;t2;e10;e11;e20;e21;e30;e31;h30;");
+        // Each of 1, 2, 3 gives two, then two of another: 2 first.
+        plan("10: the least set of several", least, 2, 4, 2);
+        least.set(2, 1);
+        plan("10: none is allowed now", least, 1, 0, 0);
+        least.set(2, 2);
+        // 1 (she lays at 0), 2 (she lays at 3), 3 with its three.
+        plan("10: the least of three days", least, 3, 7, 2);
+    }
+
+    private static void promise10SixNests() {
+        NobodyLookedYesterday hens = CHECK.farm("n0000;n0000;n0000;n0000;n0000;n0000;e50;e31;t0;");
+        plan("10: all of 64 sets", hens, 1, 2, 40);
+        plan("10: and the night's", hens, 3, 4, 0);
+        hens.night();
+        CHECK.due("12: the least of six", hens.shut(), 31);
+        lead("13: LAST is 0", hens, 0, 1, 1, 1, 1, 1);
+        CHECK.due("11: six nests", hens.each(63, 30), 32);
+    }
+
     private static void promise10Refusals() {
         NobodyLookedYesterday hens = CHECK.farm(FIVE);
         NobodyLookedYesterday none = new NobodyLookedYesterday();
@@ -83,6 +111,10 @@ final class ForesightTest {
         looked.set(0, 3);
         CHECK.due("11: AWAY, where nobody looks", looked.each(2, 5), 0);
         CHECK.due("11: AWAY, of both", looked.each(3, 5), 4);
+        NobodyLookedYesterday three = CHECK.farm("n0000;n0109;n9900;h10;");
+        three.look(0);
+        CHECK.due("11: looked at all three, she would lay at 1", three.each(7, 2), 1);
+        CHECK.due("11: as if nobody had looked at 0, there", three.each(6, 2), 0);
     }
 
     private static void promise11Refusals() {
@@ -136,6 +168,8 @@ final class ForesightTest {
         hens.set(0, 1);
         hens.set(2, 0);
         lead("13: LIKES", hens, 0, 1, -9, -9, -9);
+        lead("13: LIKES, never at 0", CHECK.farm("n0090;n0099;n0091;t0;h10;"), -9, 1, -9);
+        lead("13: LIKES, led away from 1", CHECK.farm("n0091;n0009;n0022;t1;h10;"), -9, 1, 1);
         NobodyLookedYesterday lot = CHECK.farm("n0090;n0090;n0090;n0090;n0090;n0090;t0;h20;");
         lead("13: LOT goes by DAY", lot, 1, 2, 3, 4, 5, 6);
         lot.night();
@@ -204,6 +238,22 @@ final class ForesightTest {
         CHECK.due("16: LIKES and TOLD alike", CHECK.farm("n0009;n9900;h00;").soon(), 2);
         // AWAY 0 2 1 2 1 2 1 2; SLY 0 2 1 2 1 2 1 0.
         CHECK.due("16: AWAY and SLY unlike in the 8th", CHECK.farm("n1704;n8101;n6009;h05;").soon(), 8);
+        NobodyLookedYesterday first = CHECK.farm("n0009;n9909;");
+        first.night();
+        // NEAR, LIKES, TOLD 0 0 0 ..; LOT of DAY 1, AWAY, SLY 1 0 1 ..
+        CHECK.due("16: unlike in the 1st", first.soon(), 1);
+        NobodyLookedYesterday shifted = CHECK.farm("n0009;n0909;h00;");
+        shifted.look(0);
+        // NEAR 1 1 1 ..; LIKES and TOLD 1 0 0 ..; LOT, AWAY, SLY 1 1 0 .. or 1 0 1 ..
+        CHECK.due("16: one looked today", shifted.soon(), 3);
+        // NEAR 0 0 0 ..; LOT, AWAY, SLY 0 1 0 ..; LIKES, TOLD 1 1 1 ..
+        NobodyLookedYesterday near = CHECK.farm("n0000;n0109;h02;");
+        CHECK.due("16: NEAR unlike in the 2nd", near.soon(), 2);
+        near.look(0);
+        near.night();
+        near.night();
+        // NEAR, LIKES, TOLD 1 1 1 ..; LOT of DAY 2, AWAY, SLY 0 1 0 ..
+        CHECK.due("16: NEAR at 1 from DAY 2 on", near.soon(), 1);
         NobodyLookedYesterday late = CHECK.farm("n0009;n9909;n0909;n9009;n4509;n5409;h25;");
         CHECK.due("16: six days of LOT of FIGURE 5", late.soon(), 7);
         NobodyLookedYesterday none = new NobodyLookedYesterday();
@@ -270,6 +320,8 @@ final class ForesightTest {
         // One looked at 0 today, then at 2: she lays at 1.
         three.set(0, 1);
         CHECK.due("22: one looked today", three.seeds(2, 1), 1);
+        // One looks at 2; 5758 modulo 8 is 6: of LIKINGS 6 and 2 it is nest 1; one looks at 0.
+        CHECK.due("22: at the edge of a nest", CHECK.farm("n0006;n0002;n0009;h10;").seeds(2, 1), 0);
         seedsRefusals(one);
     }
 

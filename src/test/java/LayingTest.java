@@ -94,6 +94,7 @@ final class LayingTest {
         weights("8: no LIKING at all", hens, 0, 1, 1, 1);
         hens.look(0);
         weights("8: none where she may", hens, 1, 0, 1, 1);
+        weights("8: six nests, no LIKING", CHECK.farm("n0000;n1000;n2000;n3000;n4000;n5000;h10;"), 0, 1, 1, 1, 1, 1, 1);
         NobodyLookedYesterday away = CHECK.farm("n0000;h30;");
         away.night();
         weights("8: AWAY with one nest", away, 0, 1);
@@ -234,6 +235,7 @@ final class LayingTest {
         CHECK.due("20: the other one", hens.been(2), 3);
         CHECK.refused("20: below", hens, -4, () -> hens.been(-1));
         CHECK.refused("20: above", hens, -6, () -> hens.been(10));
+        CHECK.due("20: six nests, none", CHECK.farm(FIVE + "n9999;").been(0), -9);
         CHECK.due("20: no nests", new NobodyLookedYesterday().been(0), -9);
     }
 }

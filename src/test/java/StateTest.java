@@ -173,10 +173,11 @@ final class StateTest {
         }
         hens.feed(';');
         hens.farm();
-        CHECK.tell(hens, "n9999;h00;t1;r9;e00;e35;");
+        CHECK.tell(hens, "n9999;h00;t9;r9;e00;e35;");
         hens.night();
-        hens.look(5);
+        hens.look(3);
         hens.row(4);
+        hens.row(6);
         hens.feed('h');
         hens.feed('1');
         CHECK.due("25: DAY", hens.restore(), 1);
