@@ -19,6 +19,7 @@ final class CallEdgeTest {
         mayAsBits();
         likelyNothing();
         likelyCertain();
+        likelyWhereOneLookedEverywhere();
         likelyInLeastTerms();
         likelyByLot();
         rowIsFull();
@@ -204,6 +205,17 @@ final class CallEdgeTest {
         hens.look(0);
         hens.look(1);
         likely("9: the one left", hens, 2, 1, 1);
+    }
+
+    /** She MAY lay in all nests then: WEIGHT of each counts again. */
+    private static void likelyWhereOneLookedEverywhere() {
+        NobodyLookedYesterday hens = CHECK.farm("n0002;n9903;h10;");
+        hens.look(0);
+        likely("9: just the other", hens, 0, 0, 1);
+        likely("9: the other", hens, 1, 1, 1);
+        hens.look(1);
+        likely("9: 2 of 5", hens, 0, 2, 5);
+        likely("9: 3 of 5", hens, 1, 3, 5);
     }
 
     private static void likelyInLeastTerms() {
