@@ -16,6 +16,8 @@ final class PlanEdgeTest {
         planAsIfNobodyHadLooked();
         planOfTheNightAsIfNobodyHadLooked();
         planOfASlyHen();
+        planLaysWhereNobodyLooks();
+        planOfTheFirstDayAlone();
         eachOfNoNest();
         eachOfAllNests();
         eachOfOneDay();
@@ -26,12 +28,14 @@ final class PlanEdgeTest {
         eachGoesByTheRat();
         shutOfOneNest();
         shutInJustTheTime();
+        shutWithLessTimeThanAhead();
         shutOfSixNests();
         shutTheLeast();
         shutWhateverHenSheIs();
         leadToLast();
         leadWithoutLast();
         leadInJustTheTime();
+        leadWithLessTimeThanAhead();
         leadOfSixDays();
         leadNever();
         leadAsIfNobodyHadLooked();
@@ -152,6 +156,23 @@ final class PlanEdgeTest {
         plan("AWAY, at 0", hens, 2, 0, 0);
     }
 
+    /** "then there is the NIGHT": one who looks at 0 today sends her to 1, where TIME never does. */
+    private static void planLaysWhereNobodyLooks() {
+        NobodyLookedYesterday hens = CHECK.farm("n0000;n0090;t0;e08;");
+        plan("the old EGG or the new one", hens, 2, 1, 0);
+        // Both EGGS on the third day, or one on the first and one on the third: the least set.
+        plan("two of three", hens, 3, 2, 0);
+        hens.set(2, 9);
+        plan("both", hens, 2, 2, 1);
+    }
+
+    /** "the set of the first day by which that is": not of one that is tried later, nor of a later day. */
+    private static void planOfTheFirstDayAlone() {
+        NobodyLookedYesterday hens = CHECK.farm("n0010;n0910;n0910;n9990;t1;e18;e18;e28;e30;");
+        plan("two old EGGS at 1, the new one at 0", hens, 2, 3, 2);
+        plan("and one more", hens, 3, 4, 2);
+    }
+
     private static void eachOfNoNest() {
         NobodyLookedYesterday hens = CHECK.farm("n0000;n0000;n0000;n0000;n0000;n0000;e00;e50;");
         CHECK.due("11: no bits, one day", hens.each(0, 1), 0);
@@ -242,6 +263,23 @@ final class PlanEdgeTest {
         CHECK.due("12: -9 is no refusal", other.count(16), 0);
     }
 
+    /** Sets that TIME allowed ahead are no matter. */
+    private static void shutWithLessTimeThanAhead() {
+        String nests = "n0030;";
+        for (int howMany = 2; howMany <= 6; howMany++) {
+            nests += "n0030;";
+            int due = (1 << howMany - 1) - 1;
+            NobodyLookedYesterday hens = CHECK.farm(nests);
+            for (int time = 40; time >= 0; time--) {
+                CHECK.due("12: " + howMany + " nests, TIME " + time, inTime(hens, time).shut(),
+                    time >= 3 * (howMany - 1) ? due : -9);
+            }
+        }
+        NobodyLookedYesterday dear = CHECK.farm("n0030;n0050;");
+        CHECK.due("12: both, ahead", inTime(dear, 8).shut(), 1);
+        CHECK.due("12: none, behind", inTime(dear, 2).shut(), -9);
+    }
+
     private static void shutOfSixNests() {
         NobodyLookedYesterday hens = CHECK.farm("n0080;n0080;n0080;n0080;n0080;n0080;");
         CHECK.due("12: forty minutes", inTime(hens, 40).shut(), 31);
@@ -300,6 +338,15 @@ final class PlanEdgeTest {
         CHECK.due("13: a minute lacks past both", inTime(hens, 4).lead(2), -9);
     }
 
+    /** Sets that TIME allowed ahead are no matter. */
+    private static void leadWithLessTimeThanAhead() {
+        NobodyLookedYesterday hens = CHECK.farm("n0030;n1120;n9900;");
+        for (int time = 40; time >= 0; time--) {
+            CHECK.due("13: to 1, TIME " + time, inTime(hens, time).lead(1), time >= 3 ? 1 : -9);
+            CHECK.due("13: to 2, TIME " + time, inTime(hens, time).lead(2), time >= 5 ? 1 : -9);
+        }
+    }
+
     /** "the fewest days (0 .. 6)". */
     private static void leadOfSixDays() {
         NobodyLookedYesterday hens = CHECK.farm("n0090;n0090;n0090;n0090;n0090;n0090;t0;h20;");
@@ -351,6 +398,13 @@ final class PlanEdgeTest {
         CHECK.due("13: AWAY at 0", hens.lead(0), 1);
         CHECK.due("13: AWAY at 1 then", hens.lead(1), 2);
         CHECK.due("13: she stays SLY", hens.set(0, 4), 4);
+        NobodyLookedYesterday full = CHECK.farm("n0090;n1090;t0;h40;e00;e00;e00;e00;e00;e00;e00;e00;e00;");
+        for (int figure = 1; figure < 10; figure++) {
+            full.set(1, figure);
+            CHECK.due("13: SLY at 1, FIGURE " + figure, full.tonight(0), 1);
+            CHECK.due("13: AWAY at 0, FIGURE " + figure, full.lead(0), 1);
+            CHECK.due("13: AWAY at 1 then, FIGURE " + figure, full.lead(1), 2);
+        }
     }
 
     /** All of this is thought of, not done. */

@@ -27,6 +27,7 @@ final class RowEdgeTest {
         judgeOfNestsThatAreNotThere();
         judgeEmptiesTheRow();
         judgeFromTonightOn();
+        judgeGoesByHerKind();
         nothingIsDone();
         CHECK.finish();
     }
@@ -249,6 +250,21 @@ final class RowEdgeTest {
         CHECK.due("21: not at 1 again", judge(hens, 1, 1), 1);
         hens.night();
         CHECK.due("21: as if today were the first", judge(hens, 0, 0), -9);
+    }
+
+    /** By what she is, whatever KINDS were thought of ahead of that. */
+    private static void judgeGoesByHerKind() {
+        NobodyLookedYesterday hens = CHECK.farm("n0001;n0002;h01;");
+        hens.soon();
+        CHECK.due("21: NEAR behind SOON", judge(hens, 0, 0), -9);
+        Check.rowOf(hens, 0, 0);
+        hens.ways();
+        CHECK.due("21: NEAR behind WAYS", hens.judge(), -9);
+        hens.set(0, 1);
+        hens.soon();
+        CHECK.due("21: LIKES behind SOON", judge(hens, 1, 1), -9);
+        CHECK.due("17: nothing but her own", hens.settle(2), 2);
+        CHECK.due("8: LIKES still", hens.tonight(0), 1);
     }
 
     private static NobodyLookedYesterday yard() {

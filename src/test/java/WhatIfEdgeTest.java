@@ -1,3 +1,5 @@
+import java.util.function.Supplier;
+
 /** The edges of promises 18 to 20, 24 and 25: a nest taken away or put up, EGGS by AGE, the IMAGE. */
 final class WhatIfEdgeTest {
     private static final Check CHECK = new Check("WhatIfEdgeTest");
@@ -19,6 +21,9 @@ final class WhatIfEdgeTest {
         putWithNoEggs();
         putByLot();
         putAsNear();
+        putIsNotThere();
+        restoredToFewerNests();
+        faultIsNotThere();
         beenOfEachAge();
         beenOfSeveral();
         beenOfNone();
@@ -210,6 +215,84 @@ final class WhatIfEdgeTest {
         CHECK.due("19: from LAST", hens.put(0, 0, 0), 0);
         CHECK.due("19: all of 0 but it", CHECK.farm("n0000;h10;").put(0, 0, 1), 1);
         CHECK.due("19: all of 0", CHECK.farm("n0000;h10;").put(0, 0, 0), 0);
+    }
+
+    private static NobodyLookedYesterday three() {
+        NobodyLookedYesterday hens = CHECK.farm("n0010;n5521;n9032;h25;e00;e13;");
+        hens.look(1);
+        hens.night();
+        hens.image();
+        return hens;
+    }
+
+    /** All calls that tell, or refuse, by how many nests there are; nest 3 is not there. */
+    private static long[] threeNestsTell(NobodyLookedYesterday hens) {
+        Check.rowOf(hens, 1, 2);
+        return new long[] {hens.nest(3, 0), hens.look(3), hens.likely(3, 0), hens.lead(3), hens.without(3),
+            hens.each(8, 1), hens.each(7, 9), hens.tonight(0), hens.tonight(1), hens.likely(2, 1), hens.without(2),
+            hens.plan(2, 0), hens.plan(2, 1), hens.shut(), hens.lead(2), hens.ways(), hens.soon(), hens.judge(),
+            hens.settle(3), hens.seeds(9, 5), hens.put(9, 9, 9), hens.been(0), hens.count(0), hens.night(),
+            hens.count(2), hens.count(11)};
+    }
+
+    /** The calls that tell, or refuse, by how many nests there are, each on an object of its own. */
+    private static final Twins.Call[] CALLS = {
+        h -> h.nest(3, 0), h -> h.nest(2, 6), h -> h.look(3), h -> h.night(), h -> h.tonight(0), h -> h.tonight(1),
+        h -> h.likely(3, 0), h -> h.likely(0, 0), h -> h.likely(2, 1), h -> h.plan(2, 0), h -> h.plan(2, 1),
+        h -> h.each(8, 1), h -> h.each(7, 9), h -> h.each(0, 1), h -> h.shut(), h -> h.lead(3), h -> h.lead(2),
+        h -> h.ways(), h -> h.soon(), h -> h.settle(3), h -> h.without(3), h -> h.without(2), h -> h.put(0, 0, 9),
+        h -> h.been(0), h -> h.been(3), h -> h.judge(), h -> h.seeds(9, 5), h -> h.image(), h -> h.restore(),
+        h -> h.count(0), h -> h.count(2), h -> h.count(4), h -> h.count(6), h -> h.farm()};
+
+    private static NobodyLookedYesterday threeLookedAt() {
+        NobodyLookedYesterday hens = three();
+        for (int nest = 0; nest < 3; nest++) {
+            CHECK.due("19: a look is allowed", hens.look(nest) < 0 ? 1 : 0, 0);
+        }
+        return hens;
+    }
+
+    /** "if there were a nest more": it is thought of, not there. */
+    private static void putIsNotThere() {
+        putIsNotThere("three nests", WhatIfEdgeTest::three);
+        putIsNotThere("looked at all three", WhatIfEdgeTest::threeLookedAt);
+        putIsNotThere("no nests", NobodyLookedYesterday::new);
+        NobodyLookedYesterday hens = three();
+        CHECK.due("19: LOT of DAY 1, the third of four", hens.put(9, 9, 9), 2);
+        CHECK.dueAll("19: nothing is done", Portrait.of(hens), Portrait.of(three()));
+    }
+
+    private static void putIsNotThere(String what, Supplier<NobodyLookedYesterday> maker) {
+        for (int i = 0; i < CALLS.length; i++) {
+            NobodyLookedYesterday hens = maker.get();
+            hens.put(9, 9, 9);
+            CHECK.due("19: " + what + ", call " + i, CALLS[i].answer(hens), CALLS[i].answer(maker.get()));
+        }
+    }
+
+    private static void restoredToFewerNests() {
+        NobodyLookedYesterday hens = three();
+        CHECK.tell(hens, "n1234;n4321;e30;e40;h03;");
+        hens.seeds(5, 5);
+        hens.plan(3, 0);
+        hens.restore();
+        CHECK.dueAll("25: three nests tell", threeNestsTell(hens), threeNestsTell(three()));
+        NobodyLookedYesterday none = new NobodyLookedYesterday();
+        none.image();
+        CHECK.tell(none, "n1234;n4321;");
+        none.night();
+        none.restore();
+        long[] due = {-1, -1, -3, -3, -3, -3, -3, -3, -3, -1, -1, -3, -3, 0, -9};
+        CHECK.dueAll("25: no nests", new long[] {none.nest(0, 0), none.look(0), none.night(), none.tonight(0),
+            none.plan(1, 0), none.shut(), none.ways(), none.soon(), none.settle(0), none.lead(0), none.without(0),
+            none.judge(), none.seeds(1, 1), none.put(0, 0, 0), none.been(0)}, due);
+    }
+
+    /** With a FAULT nothing comes, and nothing is left over for what calls think of. */
+    private static void faultIsNotThere() {
+        NobodyLookedYesterday hens = three();
+        CHECK.due("3: a FAULT", Check.read(hens, "n1234;n4321;h03;t40;r1;e30;e00;h90;"), -2031);
+        CHECK.dueAll("3: three nests tell", threeNestsTell(hens), threeNestsTell(three()));
     }
 
     /** "-6 9": 0 .. 9 go. */
